@@ -16,11 +16,11 @@ public final class LiveChanges {
     private static final int SOLVES = 3;
     private static final int MARKS = 2;
 
-    private static final int LONGEST = 100;
-    private static final int HEAVIEST = 50;
-    private static final int LARGEST = 400;
+    private static final int MOST_LENGTH = 100;
+    private static final int MOST_WEIGHT = 50;
+    private static final int MOST_SIZE = 400;
     private static final int FIRST_SIZE = 100;
-    private static final int LATEST_LATE = 8;
+    private static final int MOST_LATE = 8;
     private static final int MOST_STEPS = 200;
 
     private static final int COMES = 0;
@@ -78,7 +78,7 @@ public final class LiveChanges {
     }
 
     public int size(int room, int size) {
-        if (!isRoom(room) || !isWithin(size, 0, LARGEST)) {
+        if (!isRoom(room) || !isWithin(size, 0, MOST_SIZE)) {
             return BAD;
         }
         return enter(RESIZED, room, size, 0, 0);
@@ -112,7 +112,7 @@ public final class LiveChanges {
     }
 
     public int solve(int seed, int late) {
-        if (!isWithin(late, 1, LATEST_LATE)) {
+        if (!isWithin(late, 1, MOST_LATE)) {
             return BAD;
         }
         if (solveCount >= SOLVES) {
@@ -302,7 +302,7 @@ public final class LiveChanges {
     }
 
     private static boolean areTraits(int length, int weight, int wish) {
-        return isWithin(length, 1, LONGEST) && isWithin(weight, 0, HEAVIEST) && isRoom(wish);
+        return isWithin(length, 1, MOST_LENGTH) && isWithin(weight, 0, MOST_WEIGHT) && isRoom(wish);
     }
 
     // HARD stands above SOFT in one long, so that of two scores the lesser long is the better one.
@@ -433,8 +433,9 @@ public final class LiveChanges {
         private void leave(int job) {
             there[job] = false;
             locks[job] = UNLOCKED;
+            aparts[job] = 0;
             for (int other = 0; other < JOBS; other++) {
-                setApart(job, other, false);
+                aparts[other] &= ~(1 << job);
             }
         }
 
