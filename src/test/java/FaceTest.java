@@ -30,6 +30,8 @@ public final class FaceTest {
         fields();
         classesInside();
         words();
+        library();
+        lengths();
         Check.end("FaceTest");
     }
 
@@ -95,9 +97,13 @@ public final class FaceTest {
         }
     }
 
-    private static void words() throws IOException {
-        String code = Files.readString(SOURCE).replaceAll("(?s)/\\*.*?\\*/", "")
+    private static String code() throws IOException {
+        return Files.readString(SOURCE).replaceAll("(?s)/\\*.*?\\*/", "")
             .replaceAll("//[^\n]*", "");
+    }
+
+    private static void words() throws IOException {
+        String code = code();
         Pattern ruledOut = Pattern.compile("\\b(throw|throws|try|catch|finally|synchronized|assert|"
             + "package|native|volatile|transient|\\w+Exact|Random|Thread|currentTimeMillis|nanoTime|"
             + "HashMap|Object)\\b|->|::|\\[\\]\\s*\\[\\]\\s*\\[\\]");
@@ -110,6 +116,32 @@ public final class FaceTest {
             boolean fine = Set.of("java.util.Arrays", "java.util.ArrayList", "java.util.List",
                 "java.util.Iterator").contains(imports.group(1));
             Check.due("import " + imports.group(1), fine);
+        }
+    }
+
+    /** Rule 4: of the library only what stands there; its functions alone, not its constants. */
+    private static void library() throws IOException {
+        Set<String> fine = Set.of("System.arraycopy", "Arrays.fill", "Math.min", "Math.max",
+            "Math.abs", "Math.floorMod", "Integer.bitCount");
+        Matcher m = Pattern.compile("(?<!\\.)\\b(System|Arrays|Math|Integer|Long|String|List)\\.\\w+")
+            .matcher(code());
+        while (m.find()) {
+            Check.due("of the library: " + m.group(), fine.contains(m.group()));
+        }
+    }
+
+    /** Rule 11: methods stay short. In this file a method ends with a brace as deep as its head. */
+    private static void lengths() throws IOException {
+        String[] lines = code().split("\n");
+        for (int i = 0; i < lines.length; i++) {
+            Matcher head = Pattern.compile("^( +)[\\w\\[\\] ]+\\(.*\\) \\{$").matcher(lines[i]);
+            if (head.find() && !lines[i].matches(" +(if|for|while|switch) .*")) {
+                int end = i;
+                while (end < lines.length && !lines[end].equals(head.group(1) + "}")) {
+                    end++;
+                }
+                Check.due(lines[i].trim() + " is short", end - i <= 60);
+            }
         }
     }
 }

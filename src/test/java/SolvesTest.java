@@ -1,5 +1,3 @@
-import java.util.function.IntPredicate;
-
 /** Promises 9 to 18: solves, their steps, marks and scores. */
 public final class SolvesTest {
     private static final int NONE = -1, BAD = -2, STATE = -3, FULL = -4;
@@ -36,47 +34,6 @@ public final class SolvesTest {
         Check.end("SolvesTest");
     }
 
-    private static int next(int x) {
-        return x * 1103515245 + 12345;
-    }
-
-    /** A seed whose first steps do as wanted, one behind the other. */
-    private static int seedFor(IntPredicate... wants) {
-        for (int seed = 0; seed < 100_000_000; seed++) {
-            int x = seed;
-            boolean fits = true;
-            for (int i = 0; i < wants.length && fits; i++) {
-                x = next(x);
-                fits = wants[i].test(x);
-            }
-            if (fits) {
-                return seed;
-            }
-        }
-        throw new IllegalStateException("no seed");
-    }
-
-    /** Number j of m comes to the room; 6 is none. */
-    private static IntPredicate moves(int m, int j, int room) {
-        return x -> (x >>> 8) % 4 != 3 && (x >>> 16) % m == j && (x >>> 24) % 7 == room;
-    }
-
-    private static IntPredicate swaps(int m, int j, int k) {
-        return x -> (x >>> 8) % 4 == 3 && (x >>> 16) % m == j && (x >>> 20) % m == k;
-    }
-
-    private static void dueScore(LiveChanges c, int solve, boolean best, int hard, int soft) {
-        Check.due("hard of " + solve + (best ? " best" : " plan"), c.score(solve, best, true), hard);
-        Check.due("soft of " + solve + (best ? " best" : " plan"), c.score(solve, best, false), soft);
-    }
-
-    private static void dueRooms(LiveChanges c, int solve, boolean best, int... rooms) {
-        for (int j = 0; j < rooms.length; j++) {
-            Check.due("room of " + j + " in " + solve + (best ? " best" : " plan"),
-                c.room(solve, best, j), rooms[j]);
-        }
-    }
-
     private static void solves() {
         LiveChanges c = new LiveChanges();
         c.come(10, 10, 1);
@@ -101,8 +58,8 @@ public final class SolvesTest {
                 }
             }
             Check.due("knows no job", c.room(s, false, 0), STATE);
-            dueScore(c, s, false, 0, 0);
-            dueScore(c, s, true, 0, 0);
+            Scene.dueScore(c, s, false, 0, 0);
+            Scene.dueScore(c, s, true, 0, 0);
         }
         Check.due("a solve is no change", c.fact(2), 1);
     }
@@ -116,8 +73,8 @@ public final class SolvesTest {
         Check.due("take 0", c.take(0, 0), 0);
         Check.due("take 2", c.take(0, 2), 2);
         Check.due("taken", c.told(0, 1), 2);
-        dueRooms(c, 0, false, NONE, NONE, STATE, STATE, STATE);
-        dueScore(c, 0, false, 0, 142);
+        Scene.dueRooms(c, 0, false, NONE, NONE, STATE, STATE, STATE);
+        Scene.dueScore(c, 0, false, 0, 142);
         Check.due("take 1: stays", c.take(0, 1), 0);
         Check.due("taken", c.told(0, 1), 2);
         Check.due("take 2: stays", c.take(0, 2), 0);
@@ -138,19 +95,19 @@ public final class SolvesTest {
     private static void takesEachOnce() {
         LiveChanges c = new LiveChanges();
         c.come(10, 10, 1);
-        c.solve(seedFor(moves(1, 0, 1)), 1);
+        c.solve(Scene.seedFor(Scene.moves(1, 0, 1)), 1);
         c.step(0, 1);
-        dueRooms(c, 0, false, 1);
+        Scene.dueRooms(c, 0, false, 1);
         c.take(0, 1);
         c.step(0, 0);
-        dueRooms(c, 0, false, 1);
+        Scene.dueRooms(c, 0, false, 1);
         c.turn(0, 20, 3, 3);
         Check.due("only the turn", c.take(0, 2), 1);
-        dueRooms(c, 0, false, 1);
-        dueScore(c, 0, false, 0, 6);
+        Scene.dueRooms(c, 0, false, 1);
+        Scene.dueScore(c, 0, false, 0, 6);
         c.size(1, 5);
         c.step(0, 0);
-        dueScore(c, 0, false, 15, 6);
+        Scene.dueScore(c, 0, false, 15, 6);
     }
 
     private static void takingMovesPlanAndBest() {
@@ -160,39 +117,39 @@ public final class SolvesTest {
         c.solve(1, 1);
         c.lock(0, 4);
         c.take(0, 3);
-        dueRooms(c, 0, false, 4, NONE);
-        dueRooms(c, 0, true, 4, NONE);
-        dueScore(c, 0, true, 0, 12);
+        Scene.dueRooms(c, 0, false, 4, NONE);
+        Scene.dueRooms(c, 0, true, 4, NONE);
+        Scene.dueScore(c, 0, true, 0, 12);
         c.lock(0, 2);
         c.lock(1, 5);
         c.take(0, 5);
-        dueRooms(c, 0, false, 2, 5);
-        dueRooms(c, 0, true, 2, 5);
+        Scene.dueRooms(c, 0, false, 2, 5);
+        Scene.dueRooms(c, 0, true, 2, 5);
         c.free(1);
         c.take(0, 6);
-        dueRooms(c, 0, false, 2, 5);
-        dueRooms(c, 0, true, 2, 5);
+        Scene.dueRooms(c, 0, false, 2, 5);
+        Scene.dueRooms(c, 0, true, 2, 5);
         c.lock(0, NONE);
         c.take(0, 7);
-        dueRooms(c, 0, false, NONE, 5);
-        dueRooms(c, 0, true, NONE, 5);
-        dueScore(c, 0, true, 0, 13);
+        Scene.dueRooms(c, 0, false, NONE, 5);
+        Scene.dueRooms(c, 0, true, NONE, 5);
+        Scene.dueScore(c, 0, true, 0, 13);
         c.go(1);
         Check.due("by its own facts it is there", c.room(0, true, 1), 5);
         c.take(0, 8);
-        dueRooms(c, 0, false, NONE, STATE);
-        dueRooms(c, 0, true, NONE, STATE);
-        dueScore(c, 0, false, 0, 8);
+        Scene.dueRooms(c, 0, false, NONE, STATE);
+        Scene.dueRooms(c, 0, true, NONE, STATE);
+        Scene.dueScore(c, 0, false, 0, 8);
     }
 
     /** A job without weight in room 2 by BEST and in room 4 by the PLAN, which are alike in score. */
     private static LiveChanges planBesideBest() {
         LiveChanges c = new LiveChanges();
         c.come(50, 0, 0);
-        c.solve(seedFor(moves(1, 0, 2), moves(1, 0, 4)), 1);
+        c.solve(Scene.seedFor(Scene.moves(1, 0, 2), Scene.moves(1, 0, 4)), 1);
         Check.due("both become the plan", c.step(0, 2), 2);
-        dueRooms(c, 0, false, 4);
-        dueRooms(c, 0, true, 2);
+        Scene.dueRooms(c, 0, false, 4);
+        Scene.dueRooms(c, 0, true, 2);
         Check.due("best became the plan", c.told(0, 3), 1);
         return c;
     }
@@ -202,24 +159,24 @@ public final class SolvesTest {
         c.size(2, 0);
         c.size(2, 50);
         Check.due("both at once", c.take(0, 3), 2);
-        dueRooms(c, 0, true, 2);
+        Scene.dueRooms(c, 0, true, 2);
         Check.due("best became the plan", c.told(0, 3), 1);
         c = planBesideBest();
         c.size(2, 0);
         c.size(2, 50);
         c.take(0, 2);
-        dueRooms(c, 0, true, 4);
-        dueScore(c, 0, true, 0, 0);
+        Scene.dueRooms(c, 0, true, 4);
+        Scene.dueScore(c, 0, true, 0, 0);
         Check.due("best became the plan", c.told(0, 3), 2);
         c.take(0, 3);
-        dueRooms(c, 0, true, 4);
+        Scene.dueRooms(c, 0, true, 4);
         Check.due("best became the plan", c.told(0, 3), 2);
         c = planBesideBest();
         c.size(4, 49);
         c.take(0, 2);
-        dueRooms(c, 0, true, 2);
-        dueScore(c, 0, false, 1, 0);
-        dueScore(c, 0, true, 0, 0);
+        Scene.dueRooms(c, 0, true, 2);
+        Scene.dueScore(c, 0, false, 1, 0);
+        Scene.dueScore(c, 0, true, 0, 0);
         Check.due("no tried plan by taking", c.told(0, 2), 2);
     }
 
@@ -246,7 +203,7 @@ public final class SolvesTest {
     private static void stepsCatchUpFirst() {
         LiveChanges c = new LiveChanges();
         c.come(10, 1, 3);
-        c.solve(seedFor(moves(1, 0, 3)), 2);
+        c.solve(Scene.seedFor(Scene.moves(1, 0, 3)), 2);
         Check.due("step 0", c.step(0, 0), 0);
         Check.due("taken", c.told(0, 1), 1);
         Check.due("steps", c.told(0, 0), 0);
@@ -255,7 +212,7 @@ public final class SolvesTest {
         Check.due("step 1", c.step(0, 1), 1);
         Check.due("taken", c.told(0, 1), 2);
         Check.due("steps", c.told(0, 0), 1);
-        dueRooms(c, 0, true, 3);
+        Scene.dueRooms(c, 0, true, 3);
         Check.due("step 201", c.step(0, 201), BAD);
         Check.due("step -1", c.step(0, -1), BAD);
         c.size(0, 8);
@@ -277,7 +234,7 @@ public final class SolvesTest {
         int x = 77;
         for (int i = 0; i < 20; i++) {
             Check.due("nothing is tried", c.step(0, 1), 0);
-            x = next(x);
+            x = Scene.next(x);
             Check.due("x", c.told(0, 4), x);
             Check.due("steps", c.told(0, 0), i + 1);
         }
@@ -291,16 +248,16 @@ public final class SolvesTest {
             c.come(10, 0, 3);
             c.come(10, 0, 3);
             c.come(10, 0, 3);
-            c.solve(seedFor(moves(3, 1, room)), 1);
+            c.solve(Scene.seedFor(Scene.moves(3, 1, room)), 1);
             Check.due("one step", c.step(0, 1), 1);
-            dueRooms(c, 0, false, NONE, room == 6 ? NONE : room, NONE);
+            Scene.dueRooms(c, 0, false, NONE, room == 6 ? NONE : room, NONE);
             Check.due("a plan like best leaves it", c.told(0, 3), room == 6 ? 0 : 1);
         }
         LiveChanges c = new LiveChanges();
         c.come(10, 5, 0);
-        c.solve(seedFor(moves(1, 0, 0), moves(1, 0, 1), moves(1, 0, 6)), 1);
+        c.solve(Scene.seedFor(Scene.moves(1, 0, 0), Scene.moves(1, 0, 1), Scene.moves(1, 0, 6)), 1);
         Check.due("the first alone is as good", c.step(0, 3), 1);
-        dueRooms(c, 0, false, 0);
+        Scene.dueRooms(c, 0, false, 0);
         Check.due("steps", c.told(0, 0), 3);
     }
 
@@ -310,20 +267,20 @@ public final class SolvesTest {
         c.come(10, 1, 2);
         c.lock(0, 2);
         c.lock(1, 4);
-        c.solve(seedFor(swaps(2, 1, 0)), 1);
+        c.solve(Scene.seedFor(Scene.swaps(2, 1, 0)), 1);
         c.step(0, 0);
-        dueScore(c, 0, false, 0, 4);
+        Scene.dueScore(c, 0, false, 0, 4);
         c.free(0);
         c.free(1);
         Check.due("swap", c.step(0, 1), 1);
-        dueRooms(c, 0, false, 4, 2);
-        dueRooms(c, 0, true, 4, 2);
-        dueScore(c, 0, true, 0, 0);
+        Scene.dueRooms(c, 0, false, 4, 2);
+        Scene.dueRooms(c, 0, true, 4, 2);
+        Scene.dueScore(c, 0, true, 0, 0);
         c.turn(0, 10, 1, 2);
         c.turn(1, 10, 1, 4);
-        c.solve(seedFor(swaps(2, 0, 0), swaps(2, 1, 1)), 1);
+        c.solve(Scene.seedFor(Scene.swaps(2, 0, 0), Scene.swaps(2, 1, 1)), 1);
         Check.due("each with itself is a plan tried", c.step(1, 2), 2);
-        dueRooms(c, 1, false, 2, 4);
+        Scene.dueRooms(c, 1, false, 2, 4);
         Check.due("best stays", c.told(1, 3), 0);
         Check.due("swap with none", swapWithNone(), 1);
     }
@@ -333,12 +290,12 @@ public final class SolvesTest {
         c.come(10, 9, 3);
         c.come(10, 1, 3);
         c.lock(1, 3);
-        c.solve(seedFor(swaps(2, 0, 1)), 1);
+        c.solve(Scene.seedFor(Scene.swaps(2, 0, 1)), 1);
         c.take(0, 3);
         c.free(1);
         int became = c.step(0, 1);
-        dueRooms(c, 0, false, 3, NONE);
-        dueScore(c, 0, true, 0, 8);
+        Scene.dueRooms(c, 0, false, 3, NONE);
+        Scene.dueScore(c, 0, true, 0, 8);
         return became;
     }
 
@@ -350,38 +307,39 @@ public final class SolvesTest {
         }
         c.go(0);
         c.lock(2, 5);
-        c.solve(seedFor(moves(2, 1, 2)), 1);
+        c.solve(Scene.seedFor(Scene.moves(2, 1, 2)), 1);
         Check.due("one step", c.step(0, 1), 1);
-        dueRooms(c, 0, false, STATE, NONE, 5, 2);
+        Scene.dueRooms(c, 0, false, STATE, NONE, 5, 2);
         c.lock(1, NONE);
         c.lock(3, NONE);
         Check.due("none may move", c.step(0, 50), 0);
-        dueRooms(c, 0, false, STATE, NONE, 5, NONE);
-        dueRooms(c, 0, true, STATE, NONE, 5, NONE);
+        Scene.dueRooms(c, 0, false, STATE, NONE, 5, NONE);
+        Scene.dueRooms(c, 0, true, STATE, NONE, 5, NONE);
         Check.due("steps", c.told(0, 0), 51);
-        dueScore(c, 0, true, 0, 19);
+        Scene.dueScore(c, 0, true, 0, 19);
     }
 
     private static void stepsAreAcceptedByLate() {
         LiveChanges c = new LiveChanges();
         c.come(10, 1, 0);
-        int seed = seedFor(moves(1, 0, 0), moves(1, 0, 3), moves(1, 0, 5), moves(1, 0, 3));
+        int seed = Scene.seedFor(Scene.moves(1, 0, 0), Scene.moves(1, 0, 3), Scene.moves(1, 0, 5),
+            Scene.moves(1, 0, 3));
         c.solve(seed, 2);
         c.solve(seed, 1);
         Check.due("better", c.step(0, 1), 1);
         Check.due("late at place 1", c.told(0, 6), 8);
         Check.due("worse than the plan, not than late", c.step(0, 1), 1);
-        dueRooms(c, 0, false, 3);
-        dueRooms(c, 0, true, 0);
+        Scene.dueRooms(c, 0, false, 3);
+        Scene.dueRooms(c, 0, true, 0);
         Check.due("late at place 0", c.told(0, 6), 0);
         Check.due("worse than both", c.step(0, 1), 0);
-        dueRooms(c, 0, false, 3);
+        Scene.dueRooms(c, 0, false, 3);
         Check.due("late at place 1", c.told(0, 6), 3);
         Check.due("like the plan", c.step(0, 1), 1);
         Check.due("late at place 0, of the plan that stayed", c.told(0, 6), 3);
         Check.due("best became the plan once", c.told(0, 3), 1);
         Check.due("late of one: worse ones are left", c.step(1, 3), 1);
-        dueRooms(c, 1, false, 0);
+        Scene.dueRooms(c, 1, false, 0);
     }
 
     /** LATE is better than both the PLAN and the tried one: then the PLAN alone counts. */
@@ -389,12 +347,13 @@ public final class SolvesTest {
         for (int room = 1; room <= 4; room++) {
             LiveChanges c = new LiveChanges();
             c.come(10, 1, 0);
-            c.solve(seedFor(moves(1, 0, 0), moves(1, 0, 3), moves(1, 0, room)), 2);
+            c.solve(Scene.seedFor(Scene.moves(1, 0, 0), Scene.moves(1, 0, 3),
+                Scene.moves(1, 0, room)), 2);
             c.step(0, 2);
             Check.due("late", c.told(0, 6), 0);
             Check.due("to room " + room, c.step(0, 1), room <= 3 ? 1 : 0);
-            dueRooms(c, 0, false, Math.min(room, 3));
-            dueRooms(c, 0, true, 0);
+            Scene.dueRooms(c, 0, false, Math.min(room, 3));
+            Scene.dueRooms(c, 0, true, 0);
         }
     }
 
@@ -402,18 +361,18 @@ public final class SolvesTest {
     private static void stepsCountLikeScores() {
         LiveChanges c = new LiveChanges();
         c.come(10, 1, 0);
-        c.solve(seedFor(moves(1, 0, 0), moves(1, 0, 6)), 2);
+        c.solve(Scene.seedFor(Scene.moves(1, 0, 0), Scene.moves(1, 0, 6)), 2);
         Check.due("like late", c.step(0, 2), 2);
-        dueRooms(c, 0, false, NONE);
-        dueRooms(c, 0, true, 0);
+        Scene.dueRooms(c, 0, false, NONE);
+        Scene.dueRooms(c, 0, true, 0);
         LiveChanges d = new LiveChanges();
         d.come(10, 50, 5);
         d.size(5, 9);
-        d.solve(seedFor(moves(1, 0, 5)), 1);
+        d.solve(Scene.seedFor(Scene.moves(1, 0, 5)), 1);
         Check.due("hard goes ahead of soft", d.step(0, 1), 0);
-        dueRooms(d, 0, false, NONE);
+        Scene.dueRooms(d, 0, false, NONE);
         d.size(5, 10);
-        d.solve(seedFor(moves(1, 0, 5)), 1);
+        d.solve(Scene.seedFor(Scene.moves(1, 0, 5)), 1);
         Check.due("as large as its size", d.step(1, 1), 1);
     }
 
@@ -451,19 +410,19 @@ public final class SolvesTest {
     private static void backWithoutNewChanges() {
         LiveChanges c = new LiveChanges();
         c.come(10, 1, 0);
-        int seed = seedFor(moves(1, 0, 4), moves(1, 0, 1), moves(1, 0, 0));
+        int seed = Scene.seedFor(Scene.moves(1, 0, 4), Scene.moves(1, 0, 1), Scene.moves(1, 0, 0));
         c.solve(seed, 3);
         c.step(0, 1);
         c.mark(0, 0);
         c.step(0, 2);
-        dueRooms(c, 0, true, 0);
+        Scene.dueRooms(c, 0, true, 0);
         Check.due("back", c.back(0, 0), 1);
-        dueRooms(c, 0, false, 4);
-        dueRooms(c, 0, true, 4);
-        dueScore(c, 0, false, 0, 4);
-        dueScore(c, 0, true, 0, 4);
+        Scene.dueRooms(c, 0, false, 4);
+        Scene.dueRooms(c, 0, true, 4);
+        Scene.dueScore(c, 0, false, 0, 4);
+        Scene.dueScore(c, 0, true, 0, 4);
         Check.due("T stays", c.told(0, 0), 3);
-        Check.due("x stays", c.told(0, 4), next(next(next(seed))));
+        Check.due("x stays", c.told(0, 4), Scene.next(Scene.next(Scene.next(seed))));
         Check.due("counts stay", c.told(0, 2), 3);
         Check.due("counts stay", c.told(0, 3), 3);
         Check.due("late at place 0 as then", c.told(0, 6), 4);
@@ -474,17 +433,17 @@ public final class SolvesTest {
     private static void backWithNewChanges() {
         LiveChanges c = new LiveChanges();
         c.come(50, 0, 0);
-        c.solve(seedFor(moves(1, 0, 2), moves(1, 0, 4)), 4);
+        c.solve(Scene.seedFor(Scene.moves(1, 0, 2), Scene.moves(1, 0, 4)), 4);
         c.step(0, 2);
-        dueRooms(c, 0, true, 2);
+        Scene.dueRooms(c, 0, true, 2);
         c.mark(0, 1);
         c.size(2, 0);
         c.take(0, 2);
-        dueRooms(c, 0, true, 4);
+        Scene.dueRooms(c, 0, true, 4);
         Check.due("became best", c.told(0, 3), 2);
         Check.due("back", c.back(0, 1), 1);
         Check.due("taken as it went back", c.told(0, 1), 2);
-        dueRooms(c, 0, true, 4);
+        Scene.dueRooms(c, 0, true, 4);
         Check.due("became best once more", c.told(0, 3), 3);
         c.size(2, 400);
         Check.due("back", c.back(0, 1), 1);
@@ -506,39 +465,39 @@ public final class SolvesTest {
         c.turn(0, 70, 3, 0);
         c.size(1, 20);
         c.step(0, 0);
-        dueScore(c, 0, false, 120, 41);
+        Scene.dueScore(c, 0, false, 120, 41);
         Check.due("back", c.back(0, 0), 3);
-        dueRooms(c, 0, false, 1, 1, NONE);
-        dueScore(c, 0, false, 120, 41);
+        Scene.dueRooms(c, 0, false, 1, 1, NONE);
+        Scene.dueScore(c, 0, false, 120, 41);
         Check.due("late", c.told(0, 5), 120);
         Check.due("late", c.told(0, 6), 41);
         c.go(0);
         c.step(0, 0);
         Check.due("back", c.back(0, 0), 3);
-        dueRooms(c, 0, true, STATE, 1, NONE);
-        dueScore(c, 0, true, 40, 38);
+        Scene.dueRooms(c, 0, true, STATE, 1, NONE);
+        Scene.dueScore(c, 0, true, 40, 38);
     }
 
     private static void marksStandApart() {
         LiveChanges c = new LiveChanges();
         c.come(10, 1, 0);
-        c.solve(seedFor(moves(1, 0, 3), moves(1, 0, 2), moves(1, 0, 1)), 1);
+        c.solve(Scene.seedFor(Scene.moves(1, 0, 3), Scene.moves(1, 0, 2), Scene.moves(1, 0, 1)), 1);
         c.step(0, 1);
         c.mark(0, 0);
         c.step(0, 1);
         c.mark(0, 1);
         c.step(0, 1);
-        dueRooms(c, 0, false, 1);
+        Scene.dueRooms(c, 0, false, 1);
         c.back(0, 0);
-        dueRooms(c, 0, false, 3);
+        Scene.dueRooms(c, 0, false, 3);
         c.back(0, 1);
-        dueRooms(c, 0, true, 2);
+        Scene.dueRooms(c, 0, true, 2);
         c.back(0, 0);
-        dueRooms(c, 0, true, 3);
+        Scene.dueRooms(c, 0, true, 3);
         c.back(0, 1);
         c.mark(0, 0);
         c.back(0, 0);
-        dueRooms(c, 0, true, 2);
+        Scene.dueRooms(c, 0, true, 2);
         Check.due("a mark stays after going back", c.back(0, 0), 1);
     }
 
@@ -570,29 +529,29 @@ public final class SolvesTest {
         }
         c.solve(1, 1);
         c.take(0, 32);
-        dueScore(c, 0, false, 1500, 0);
+        Scene.dueScore(c, 0, false, 1500, 0);
         for (int a = 0; a < 8; a++) {
             for (int b = a + 1; b < 8; b++) {
                 c.apart(b, a, true);
             }
         }
         c.step(0, 0);
-        dueScore(c, 0, false, 1780, 0);
+        Scene.dueScore(c, 0, false, 1780, 0);
         c.apart(0, 7, false);
         c.size(2, 400);
         c.size(3, 0);
         c.step(0, 0);
-        dueScore(c, 0, true, 1470, 0);
+        Scene.dueScore(c, 0, true, 1470, 0);
         c.lock(0, 3);
         c.step(0, 0);
-        dueScore(c, 0, true, 100 + 1100 + 210, 0);
+        Scene.dueScore(c, 0, true, 100 + 1100 + 210, 0);
         c.lock(1, 4);
         c.step(0, 0);
-        dueScore(c, 0, true, 100 + 1000 + 150, 0);
+        Scene.dueScore(c, 0, true, 100 + 1000 + 150, 0);
         c.lock(1, NONE);
         c.lock(0, NONE);
         c.step(0, 0);
-        dueScore(c, 0, true, 1000 + 150, 2);
+        Scene.dueScore(c, 0, true, 1000 + 150, 2);
     }
 
     private static void scoresSoft() {
@@ -602,12 +561,12 @@ public final class SolvesTest {
         c.come(1, 0, 5);
         c.solve(1, 1);
         c.step(0, 0);
-        dueScore(c, 0, false, 0, 351 + 22 + 1);
+        Scene.dueScore(c, 0, false, 0, 351 + 22 + 1);
         c.lock(0, 5);
         c.lock(1, 1);
         c.lock(2, 0);
         c.step(0, 0);
-        dueScore(c, 0, false, 0, 250 + 12);
+        Scene.dueScore(c, 0, false, 0, 250 + 12);
         Check.due("no such solve", c.score(1, true, true), BAD);
         for (int far : FAR) {
             Check.due("score far", c.score(far, false, false), BAD);
@@ -623,7 +582,7 @@ public final class SolvesTest {
         c.lock(1, 1);
         c.apart(0, 1, true);
         c.step(0, 0);
-        dueScore(c, 0, false, 40, 5);
+        Scene.dueScore(c, 0, false, 40, 5);
         c.size(1, 10);
         c.come(9, 4, 4);
         c.lock(0, 5);
@@ -639,7 +598,7 @@ public final class SolvesTest {
             Check.due("hard by " + n, c.scoreBy(0, true, true, n), hard[n]);
             Check.due("soft by " + n, c.scoreBy(0, false, false, n), soft[n]);
         }
-        dueScore(c, 0, false, 40, 5);
+        Scene.dueScore(c, 0, false, 40, 5);
         Check.due("it took nothing", c.told(0, 1), 5);
         c.step(0, 0);
         Check.due("gone by its own: in none", c.scoreBy(0, false, false, 2), 10 + 22);
@@ -659,7 +618,7 @@ public final class SolvesTest {
     private static void sames() {
         LiveChanges c = new LiveChanges();
         c.come(50, 0, 0);
-        int seed = seedFor(moves(1, 0, 2), moves(1, 0, 4), moves(1, 0, 2));
+        int seed = Scene.seedFor(Scene.moves(1, 0, 2), Scene.moves(1, 0, 4), Scene.moves(1, 0, 2));
         c.solve(seed, 1);
         c.solve(seed, 8);
         Check.due("both new", c.same(0, 1), 1);
@@ -673,7 +632,7 @@ public final class SolvesTest {
         Check.due("T and x need not be alike", c.same(0, 1), 1);
         c.step(0, 1);
         Check.due("plans differ, best ones do not", c.same(0, 1), 0);
-        c.solve(seedFor(moves(1, 0, 4)), 2);
+        c.solve(Scene.seedFor(Scene.moves(1, 0, 4)), 2);
         c.step(2, 1);
         Check.due("best ones differ, plans do not", c.same(0, 2), 0);
         Check.due("with itself", c.same(2, 2), 1);
@@ -699,7 +658,7 @@ public final class SolvesTest {
         Check.due("taken", c.told(0, 1), 3);
         Check.due("became the plan", c.told(0, 2), 0);
         Check.due("became best", c.told(0, 3), 0);
-        Check.due("x", c.told(0, 4), next(next(next(-5))));
+        Check.due("x", c.told(0, 4), Scene.next(Scene.next(Scene.next(-5))));
         Check.due("late hard", c.told(0, 5), 50);
         Check.due("late soft", c.told(0, 6), 2);
         Check.due("what 7", c.told(0, 7), NOTHING);
