@@ -45,7 +45,9 @@ public final class EdgesOfSolvesTest {
         swapWithItself();
         sixIsNone();
         likeThePlan();
+        likeThePlanThoughLateIsBetter();
         likeLate();
+        plansThatAreNotTaken();
         latePlaceWraps();
         marksAre0And1();
         noSuchMark();
@@ -89,6 +91,11 @@ public final class EdgesOfSolvesTest {
         Check.due("soft by 0", c.scoreBy(0, false, false, 0), 0);
         Check.due("soft by 1", c.scoreBy(0, false, false, 1), 0);
         Check.due("soft by 2", c.scoreBy(0, false, false, 2), 8);
+        Check.due("soft by all", c.scoreBy(0, false, false, 5), 16);
+        Check.due("hard by all", c.scoreBy(0, false, true, 5), 10);
+        Check.due("soft by 0, behind all", c.scoreBy(0, false, false, 0), 0);
+        Check.due("hard by all", c.scoreBy(0, false, true, 5), 10);
+        Check.due("hard by 1, behind all", c.scoreBy(0, false, true, 1), 0);
     }
 
     /** "of each ROOM the LENGTHS of its JOBS together, as far as they are above its SIZE" */
@@ -155,6 +162,8 @@ public final class EdgesOfSolvesTest {
         c.apart(0, 2, false);
         c.step(0, 0);
         Check.due("they need not", c.score(0, false, true), 0);
+        Check.due("by the changes ahead of that", c.scoreBy(0, false, true, 12), 10);
+        Check.due("by those ahead of all that is told of them", c.scoreBy(0, false, true, 3), 0);
     }
 
     /** "of each JOB in a ROOM its WEIGHT times how far its ROOM is from its WISH (by numbers)" */
@@ -685,6 +694,37 @@ public final class EdgesOfSolvesTest {
         }
     }
 
+    /** "if the PLAN is not BETTER than it, or ..": one of the two is enough. */
+    private static void likeThePlanThoughLateIsBetter() {
+        for (int room = 2; room <= 4; room++) {
+            int seed = Scene.seedFor(Scene.moves(1, 0, 0), Scene.moves(1, 0, 3),
+                Scene.moves(1, 0, room));
+            LiveChanges c = withJobs(1, seed, 2);
+            Check.due("both become the plan", c.step(0, 2), 2);
+            Check.due("late", c.told(0, 6), 0);
+            Check.due("to room " + room, c.step(0, 1), room <= 3 ? 1 : 0);
+            Scene.dueRooms(c, 0, false, room == 2 ? 2 : 3);
+        }
+    }
+
+    /** "This TRIED PLAN becomes the PLAN if ..": else the PLAN is as it was, after swaps, too. */
+    private static void plansThatAreNotTaken() {
+        for (int j = 0; j < 2; j++) {
+            LiveChanges c = new LiveChanges();
+            c.come(10, 1, 1);
+            c.come(10, 1, 4);
+            c.lock(0, 1);
+            c.lock(1, 4);
+            c.free(0);
+            c.free(1);
+            c.solve(Scene.seedFor(Scene.swaps(2, j, 1 - j), Scene.moves(2, j, 6)), 1);
+            Check.due("none becomes the plan", c.step(0, 2), 0);
+            Scene.dueRooms(c, 0, false, 1, 4);
+            Scene.dueScore(c, 0, false, 0, 0);
+            Check.due("T", c.told(0, 0), 2);
+        }
+    }
+
     /** "or the SCORE of LATE at place T % L is not BETTER than it": a like one, one worse by 1. */
     private static void likeLate() {
         for (int room = 3; room <= 5; room++) {
@@ -807,10 +847,15 @@ public final class EdgesOfSolvesTest {
         Check.due("late", c.told(0, 6), 8);
         Scene.dueScore(c, 0, false, 0, 3);
         c.step(0, 1);
+        Scene.dueScore(c, 0, true, 0, 0);
         Check.due("late at place 0", c.told(0, 6), 3);
         c.back(0, 0);
         Check.due("late at place 0", c.told(0, 6), 3);
         Scene.dueRooms(c, 0, false, 3);
+        Scene.dueScore(c, 0, false, 0, 3);
+        Scene.dueScore(c, 0, true, 0, 3);
+        c.step(0, 1);
+        Check.due("late at place 1 as it was then", c.told(0, 6), 8);
     }
 
     /** "it CATCHES UP to what it had TAKEN as it went back": no further. */
